@@ -268,8 +268,8 @@ public final class DoorPaints {
         }
         search.over(told.town, n, true);
         switch (what) {
-            case 0: return search.fewestWrong();
-            case 1: return search.leastPaint();
+            case 0: return search.fewestWrong;
+            case 1: return search.leastPaint;
             default: return search.visitAt(what - TEN);
         }
     }
@@ -280,7 +280,7 @@ public final class DoorPaints {
         }
         for (int n = 0; n <= MOST_ROW; n++) {
             search.over(told.town, n, false);
-            if (search.fewestWrong() == 0) {
+            if (search.fewestWrong == 0) {
                 return what == 0 ? n : search.visitAt(what - TEN);
             }
         }
@@ -1349,16 +1349,14 @@ public final class DoorPaints {
 
     /** Tries all rows of some VISITS, the lowest numbers first, each VISIT taken back behind it. */
     private static final class Search {
-        /** Above all PAINT of a row, so that one number compares WRONG DOORS first and PAINT then. */
-        static final int WRONG_WEIGHT = 1024;
-        static final int NO_KEY = 1 << 30;
+        static final int WORST = Integer.MAX_VALUE;
 
         final Town town;
         final int[] row;
         final int[] bestRow;
         int length;
-        int bestKey;
-        int paintAtFirst;
+        int fewestWrong;
+        int leastPaint;
         boolean byPaint;
 
         Search() {
@@ -1368,66 +1366,64 @@ public final class DoorPaints {
         }
 
         /** Where there are no VISITS at all, the row that is found is empty. */
-        void over(Town now, int n, boolean leastPaint) {
+        void over(Town now, int n, boolean paintCounts) {
             town.become(now);
             length = now.hasVisits() ? n : 0;
-            byPaint = leastPaint;
-            paintAtFirst = now.allPaint();
-            bestKey = NO_KEY;
-            tryFrom(0);
-        }
-
-        int fewestWrong() {
-            return bestKey / WRONG_WEIGHT;
-        }
-
-        int leastPaint() {
-            return bestKey % WRONG_WEIGHT;
+            byPaint = paintCounts;
+            fewestWrong = WORST;
+            leastPaint = WORST;
+            tryFrom(0, Integer.bitCount(town.wrongBits()), 0);
         }
 
         int visitAt(int i) {
             return i >= 0 && i < length && i < MOST_ROW ? bestRow[i] : NONE;
         }
 
-        private void tryFrom(int depth) {
+        private void tryFrom(int depth, int wrong, int taken) {
             if (depth >= length || depth >= MOST_ROW) {
-                judge();
+                if (isBetter(wrong, taken)) {
+                    take(wrong, taken);
+                }
                 return;
             }
-            // a row that leaves nothing WRONG and takes nothing can not be bettered
-            for (int v = 0; v < town.visitorCount && bestKey > 0; v++) {
-                for (int d = 0; d < town.doorCount && bestKey > 0; d++) {
+            for (int v = 0; v < town.visitorCount; v++) {
+                for (int d = 0; d < town.doorCount && !isSettled(); d++) {
                     row[depth] = TEN * v + d;
-                    tryVisit(v, d, depth);
+                    tryVisit(v, d, depth, wrong, taken);
                 }
             }
         }
 
-        private void tryVisit(int v, int d, int depth) {
+        /** Marks on the sleeve stay: no row is better or worse by them. */
+        private void tryVisit(int v, int d, int depth, int wrong, int taken) {
             Visitor caller = town.visitors[v];
             Door at = town.doors[d];
             int paint = caller.paint;
-            int sleeve = caller.sleeve;
             int height = at.height;
             int top = at.shown();
             boolean wet = at.wet;
+            int others = at.isWrong() ? wrong - 1 : wrong;
             town.receive(v, d);
-            tryFrom(depth + 1);
+            tryFrom(depth + 1, at.isWrong() ? others + 1 : others, taken + paint - caller.paint);
             caller.paint = paint;
-            caller.sleeve = sleeve;
             at.restore(height, top, wet);
         }
 
-        private void judge() {
-            int key = Integer.bitCount(town.wrongBits()) * WRONG_WEIGHT;
-            if (byPaint) {
-                key += paintAtFirst - town.allPaint();
-            }
-            if (key < bestKey) {
-                bestKey = key;
-                for (int i = 0; i < length && i < MOST_ROW; i++) {
-                    bestRow[i] = row[i];
-                }
+        /** Whether no later row can be better. */
+        private boolean isSettled() {
+            return fewestWrong == 0 && (!byPaint || leastPaint == 0);
+        }
+
+        /** A row that is as good as an earlier one is not better. */
+        private boolean isBetter(int wrong, int taken) {
+            return wrong < fewestWrong || byPaint && wrong == fewestWrong && taken < leastPaint;
+        }
+
+        private void take(int wrong, int taken) {
+            fewestWrong = wrong;
+            leastPaint = taken;
+            for (int i = 0; i < length && i < MOST_ROW; i++) {
+                bestRow[i] = row[i];
             }
         }
     }

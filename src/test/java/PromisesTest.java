@@ -124,6 +124,11 @@ public final class PromisesTest {
         due("images are gone", x.count(2), 0);
         due("no image 0", x.back(0), STATE);
         due("sheets stay", x.count(4), 3);
+        due("once more", say(x, "door 1 2;not 0 2;plan 90;"), 3);
+        due("and once more, with a plan", say(x, "door 3;plan 91 92;"), 2);
+        layers(x, 0, 3);
+        due("may all", x.door(0, 2), 0);
+        due("acts", x.rule(2), 2);
         due("an empty text tells nothing", say(x, ""), 0);
         due("no visitors", x.rule(0), 0);
     }
@@ -275,6 +280,8 @@ public final class PromisesTest {
         due("it is wet still", x.door(0, 3), 1);
         due("a spy", x.visit(3, 0), 4);
         due("a sleeve of the spy", x.visitor(3, 3), 8);
+        due("the miser once more", x.visit(2, 0), 4);
+        due("two marks", x.visitor(2, 3), 24);
         due("no visitor", x.visit(4, 0), BAD);
         due("no door", x.visit(0, 2), BAD);
         due("below", x.visit(-1, 0), BAD);
@@ -690,6 +697,8 @@ public final class PromisesTest {
         due("no doors", town("plain 1 1;").drift(0, 1, 0), STATE);
         due("no visitors", town("door;").drift(0, 1, 0), STATE);
         due("no doors, bad", town("plain 1 1;").drift(0, 0, 0), BAD);
+        due("rain makes three one", town("miser 1 1;door 1 1 1 1 1;").drift(1, 1, 0), 3);
+        due("sun takes red", town("miser 1 1;door 1 0 0;").drift(5, 1, 0), 1);
         due("sixty by misers", town("miser 1 1;door 1;").drift(HIGHEST, 60, 0), 1);
     }
 
@@ -735,7 +744,11 @@ public final class PromisesTest {
         due("plan", x.rule(2), 2);
         due("seen", x.count(1), 1);
         x.scrape(0);
+        x.forget(0);
+        x.see(1, 5, 1);
+        due("not as seen", x.orders(0), 0);
         due("the image stays", x.back(0), 4);
+        due("as seen then", x.orders(0), 2);
     }
 
     private static void p34sheet() {
