@@ -1349,7 +1349,7 @@ public final class DoorPaints {
 
     /** Tries all rows of some VISITS, the lowest numbers first, each VISIT taken back behind it. */
     private static final class Search {
-        static final int WORST = Integer.MAX_VALUE;
+        static final int WORST = 1 << 30;
 
         final Town town;
         final int[] row;
