@@ -424,6 +424,9 @@ public final class PromisesTest {
         due("no acts", x.runs(3), 3);
         x.ought(0, 0, true);
         due("wrong now", x.runs(1), 1);
+        x.visit(0, 1);
+        x.visit(2, 1);
+        due("a sleeve that was marked before", x.runs(4), 4);
     }
 
     private static void p19ahead() {
@@ -464,6 +467,8 @@ public final class PromisesTest {
         due("three: the first row of several", x.best(3, 10), 0);
         due("three: second", x.best(3, 11), 10);
         due("three: third", x.best(3, 12), 11);
+        due("three: not so many", x.best(3, 13), NONE);
+        due("three: far from so many", x.best(3, HIGHEST), NONE);
         x.alter(0, 2, 0);
         due("one passed over takes nothing", x.best(3, 1), 2);
         due("n -1", x.best(-1, 0), BAD);
@@ -488,6 +493,8 @@ public final class PromisesTest {
         due("the first such row", x.few(10), 2);
         due("then", x.few(11), 10);
         due("last", x.few(12), 11);
+        due("not so many", x.few(13), NONE);
+        due("far from so many", x.few(HIGHEST), NONE);
         x.alter(1, 2, 0);
         due("by none", x.few(0), NONE);
         due("by none, first", x.few(10), NONE);
@@ -862,6 +869,9 @@ public final class PromisesTest {
         due("the cast is ahead of the index", x.torn(), 3);
         x.read(0, 0, 0, 21);
         due("BAD is no end", x.torn(), 3);
+        due("nothing is read of another lane", x.read(0, 1, 0, 0), 0);
+        due("nothing is found", x.torn(), 0);
+        x.read(0, 1, 0, 1);
         x.lay(0, 0, 7);
         due("refused", x.read(0, 0, 0, 1), -20);
         due("refused is no end", x.torn(), 3);
