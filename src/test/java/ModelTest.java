@@ -33,7 +33,8 @@ public final class ModelTest {
         if (pick(10) > 0) {
             feedText(soundText());
         }
-        while (calls < 512 && !check.failed()) {
+        // what an object answers behind its 512th call is free, and one turn may make several calls
+        while (calls < 506 && !check.failed()) {
             if (pick(150) == 0) {
                 String text = pick(3) == 0 ? soundText() : spoiled(soundText());
                 feedText(pick(40) == 0 ? "" : text);

@@ -21,25 +21,15 @@ public final class PromisesTest {
     }
 
     private static int say(DoorPaints x, String text) {
-        for (int i = 0; i < text.length(); i++) {
-            due("feed " + i + " of " + text, x.feed(text.charAt(i)), i + 1);
-        }
-        return x.text();
+        return check.say(x, text);
     }
 
-    /** A new town as a text tells it. */
     private static DoorPaints town(String text) {
-        DoorPaints x = new DoorPaints();
-        int lines = (int) text.chars().filter(c -> c == ';').count();
-        due("lines of " + text, say(x, text), lines);
-        return x;
+        return check.town(text);
     }
 
     private static void layers(DoorPaints x, int d, int... want) {
-        due("height of DOOR " + d, x.door(d, 0), want.length);
-        for (int i = 0; i < 6; i++) {
-            due("LAYER " + i + " of DOOR " + d, x.door(d, 10 + i), i < want.length ? want[i] : NONE);
-        }
+        check.layers(x, d, want);
     }
 
     private static void p01newObject() {
@@ -134,9 +124,7 @@ public final class PromisesTest {
     }
 
     private static void faulty(String text, int fault, int place) {
-        DoorPaints x = new DoorPaints();
-        due("text '" + text + "'", say(x, text), -10 - place);
-        due("fault of '" + text + "'", x.fault(), fault);
+        check.faulty(text, fault, place);
     }
 
     private static void p05faults() {
