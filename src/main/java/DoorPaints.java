@@ -266,7 +266,7 @@ public final class DoorPaints {
         if (n < 0 || n > MOST_ROW || what < 0 || what > 1 && what < TEN) {
             return BAD;
         }
-        search.over(told.town, n, true);
+        search.forBest(told.town, n);
         switch (what) {
             case 0: return search.fewestWrong;
             case 1: return search.leastPaint;
@@ -279,8 +279,7 @@ public final class DoorPaints {
             return BAD;
         }
         for (int n = 0; n <= MOST_ROW; n++) {
-            search.over(told.town, n, false);
-            if (search.fewestWrong == 0) {
+            if (search.clearsAll(told.town, n)) {
                 return what == 0 ? n : search.visitAt(what - TEN);
             }
         }
@@ -1365,12 +1364,26 @@ public final class DoorPaints {
             bestRow = new int[MOST_ROW];
         }
 
-        /** Where there are no VISITS at all, the row that is found is empty. */
-        void over(Town now, int n, boolean paintCounts) {
+        /** Finds the row by which fewest DOORS are WRONG and least PAINT is taken. */
+        void forBest(Town now, int n) {
+            byPaint = true;
+            fewestWrong = WORST;
+            over(now, n);
+        }
+
+        /** Finds the first row by which no DOOR is WRONG: whether there is one. */
+        boolean clearsAll(Town now, int n) {
+            byPaint = false;
+            // a row that leaves one DOOR WRONG is no better than none
+            fewestWrong = 1;
+            over(now, n);
+            return fewestWrong == 0;
+        }
+
+        /** Where there are no VISITS at all, the one row is empty. */
+        private void over(Town now, int n) {
             town.become(now);
             length = now.hasVisits() ? n : 0;
-            byPaint = paintCounts;
-            fewestWrong = WORST;
             leastPaint = WORST;
             tryFrom(0, Integer.bitCount(town.wrongBits()), 0);
         }
@@ -1387,7 +1400,7 @@ public final class DoorPaints {
                 return;
             }
             for (int v = 0; v < town.visitorCount; v++) {
-                for (int d = 0; d < town.doorCount && !isSettled(); d++) {
+                for (int d = 0; d < town.doorCount && mayImprove(depth, wrong, taken); d++) {
                     row[depth] = TEN * v + d;
                     tryVisit(v, d, depth, wrong, taken);
                 }
@@ -1409,9 +1422,9 @@ public final class DoorPaints {
             at.restore(height, top, wet);
         }
 
-        /** Whether no later row can be better. */
-        private boolean isSettled() {
-            return fewestWrong == 0 && (!byPaint || leastPaint == 0);
+        /** Whether a row may be better that goes on from here: a VISIT clears one DOOR at most, and gives no PAINT. */
+        private boolean mayImprove(int depth, int wrong, int taken) {
+            return isBetter(Math.max(0, wrong - (length - depth)), taken);
         }
 
         /** A row that is as good as an earlier one is not better. */

@@ -13,7 +13,7 @@ public final class EdgesTest {
     public static void main(String[] args) {
         p01nothingYet(); p02feed(); p03end(); p04text(); p05fault(); p06rule(); p07visitor(); p08door(); p09plan();
         p10uses(); p11visit(); p12sky(); p13scrape(); p14alter(); p15ought(); p16plans(); p17cut();
-        p18runs(); p19ahead(); p20clears(); p21best(); p22few(); p23reads();
+        p18runs(); p19ahead(); p20clears(); p21best(); p21bestOfSeveral(); p22few(); p23reads();
         p24see(); p25forget(); p26pots(); p27rained(); p28orders(); p29luck(); p30mean(); p31drift();
         p32keep(); p33back(); p34sheet(); p35lay(); p36readNumbers(); p36readPairs(); p36readRefused(); p37torn(); p38count();
         check.finish();
@@ -520,6 +520,36 @@ public final class EdgesTest {
         due("it is the only one", y.best(1, 0), 0);
     }
 
+    /** Of several that by which least PAINT is taken, of these the first; no row finds what another has left. */
+    private static void p21bestOfSeveral() {
+        DoorPaints x = town("priest 1 9;plain 2 9;spy 3 9;door 0;not 0 0;");
+        due("the priest takes twice as much", x.best(1, 10), 10);
+        due("PAINT", x.best(1, 1), 1);
+        due("WRONG", x.best(1, 0), 0);
+        due("two: WRONG", x.best(2, 0), 0);
+        due("two: PAINT", x.best(2, 1), 2);
+        due("two: first", x.best(2, 10), 10);
+        due("two: second", x.best(2, 11), 10);
+        x.ought(0, 2, true);
+        x.ought(0, 4, true);
+        due("2 and 2 is 4, too: 2 and 1", x.best(2, 11), 20);
+        due("by more PAINT fewer are WRONG", x.best(2, 0), 0);
+        due("one is cheap again", x.best(1, 10), 20);
+        due("its PAINT", x.best(1, 1), 1);
+        due("none", x.best(0, 1), 0);
+        // a miser and one without PAINT take nothing: with nothing WRONG they are best
+        x = town("plain 1 9;plain 2 0;miser 3 0;door;");
+        due("passed over", x.best(1, 10), 10);
+        due("nothing is taken", x.best(3, 1), 0);
+        // six LAYERS, the top wet 1: 2 by VISITOR 0, 3 by VISITOR 1
+        x = town("plain 1 99;plain 2 99;door 0 0 0 0 0;not 0 1;not 0 2;not 0 4;");
+        x.visit(0, 0);
+        due("each from wet 1", x.best(1, 10), 10);
+        due("3 is right", x.best(1, 0), 0);
+        due("3 PAINT at six LAYERS", x.best(1, 1), 3);
+        due("few, likewise", x.few(10), 10);
+    }
+
     private static void p22few() {
         String all = "plain 1 9;door 0;door 0;door 0;door 0;";
         DoorPaints x = town(all);
@@ -623,6 +653,13 @@ public final class EdgesTest {
         x.see(0, 0, 1);
         x.see(1, 0, 2);
         due("all along THE PLAN, not at one DOOR", x.pots(1), 0);
+        due("his pot is his own again", x.ahead(0), 2);
+        due("nobody else went with another's", x.pots(0), 0);
+        due("his pot is his own in all orders", x.orders(0), 0);
+        x.forget(0);
+        x.see(0, 0, 2);
+        due("with his own alone", x.pots(1), 2);
+        due("in all orders", x.orders(0), 2);
         bad("pots of two", x::pots, -1, 2, 3, 4, LOWEST, HIGHEST);
     }
 

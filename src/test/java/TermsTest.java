@@ -343,6 +343,8 @@ public final class TermsTest {
                 faulty(name.substring(0, name.length() - 1) + " 0 0;", 2, 0);
             }
             faulty(name.substring(1) + " 0 0;", 2, 0);
+            faulty("z" + name.substring(1) + " 0 0;", 2, 0);
+            faulty(name.substring(0, name.length() - 1) + "z 0 0;", 2, 0);
             faulty(name.toUpperCase() + " 0 0;", 1, 0);
             faulty(name.substring(0, 2) + "z" + name.substring(3) + " 0 0;", 2, 0);
         }
