@@ -570,7 +570,11 @@ public final class EdgesTest {
         due("by the last VISIT of all", x.few(10), 33);
         x.alter(3, 2, 0);
         due("he has not so much", x.few(0), NONE);
-        // 0, then 1, on wet 5 make 0
+        x = town("priest 1 9;plain 1 9;door 0;not 0 0;");
+        due("the row that takes least", x.best(1, 10), 10);
+        due("the first row, whatever it takes", x.few(10), 0);
+        due("the row that takes least, still", x.best(1, 10), 10);
+        // 1 on wet 5 makes 0
         x = town("plain 5 9;plain 1 9;door;not 0 5;not 0 4;not 0 1;");
         x.visit(0, 0);
         due("by 1 on wet 5", x.few(10), 10);
