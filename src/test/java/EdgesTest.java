@@ -548,6 +548,11 @@ public final class EdgesTest {
         due("3 is right", x.best(1, 0), 0);
         due("3 PAINT at six LAYERS", x.best(1, 1), 3);
         due("few, likewise", x.few(10), 10);
+        // each on the dry 1: 2 by VISITOR 0, 3 by VISITOR 1, not 1 and 3
+        x = town("plain 2 9;plain 3 9;door 1;not 0 1;not 0 2;not 0 4;");
+        due("dry again", x.best(1, 10), 10);
+        due("3 is right", x.best(1, 0), 0);
+        due("few, likewise", x.few(10), 10);
     }
 
     private static void p22few() {
@@ -657,14 +662,32 @@ public final class EdgesTest {
         x.see(0, 0, 1);
         x.see(1, 0, 2);
         due("all along THE PLAN, not at one DOOR", x.pots(1), 0);
-        due("his pot is his own again", x.ahead(0), 2);
-        due("nobody else went with another's", x.pots(0), 0);
-        due("his pot is his own in all orders", x.orders(0), 0);
-        x.forget(0);
-        x.see(0, 0, 2);
-        due("with his own alone", x.pots(1), 2);
-        due("in all orders", x.orders(0), 2);
         bad("pots of two", x::pots, -1, 2, 3, 4, LOWEST, HIGHEST);
+        ownPotAgain();
+    }
+
+    /** Behind pots() all go with their own BRUSH again. */
+    private static void ownPotAgain() {
+        DoorPaints x = town("plain 1 9;plain 2 9;door;not 0 2;plan 0;");
+        x.see(0, 0, 1);
+        due("his own alone", x.pots(0), 1);
+        due("ahead", x.ahead(0), 1);
+        x.pots(0);
+        due("orders", x.orders(0), 1);
+        x.pots(0);
+        due("the other's", x.pots(1), 3);
+        x.pots(0);
+        due("rained", x.rained(), 3);
+        x.pots(0);
+        due("clears", x.clears(0), 1);
+        x.pots(0);
+        due("luck", x.luck(10, 0, 0), 0);
+        x.pots(0);
+        due("drift", x.drift(0, 1, 1), 0);
+        x.pots(0);
+        x.sheet(0, 0, 2);
+        x.read(0, 0, 0, 1);
+        due("read", x.door(0, 1), 1);
     }
 
     private static void p27rained() {

@@ -74,6 +74,11 @@ public final class FaceTest {
         for (Class<?> nested : inside) {
             check.holds(nested.getSimpleName() + " is static and private", Modifier.isStatic(nested.getModifiers()) && Modifier.isPrivate(nested.getModifiers()));
             check.holds(nested.getSimpleName() + " has some twenty fields at most", nested.getDeclaredFields().length <= 20);
+            for (Method method : nested.getDeclaredMethods()) {
+                String name = method.getName();
+                check.holds(name + " is no name of the face", Arrays.stream(FACE).noneMatch(told -> told.contains(" " + name + "(")));
+                check.holds(name + " takes at most seven", method.getParameterCount() <= 7);
+            }
         }
     }
 
