@@ -1368,7 +1368,8 @@ public final class DoorPaints {
         void forBest(Town now, int n) {
             byPaint = true;
             fewestWrong = WORST;
-            over(now, n);
+            begin(now, n);
+            tryFrom(0, Integer.bitCount(town.wrongBits()), 0);
         }
 
         /** Finds the first row by which no DOOR is WRONG: whether there is one. */
@@ -1376,16 +1377,16 @@ public final class DoorPaints {
             byPaint = false;
             // a row that leaves one DOOR WRONG is no better than none
             fewestWrong = 1;
-            over(now, n);
+            begin(now, n);
+            tryFrom(0, Integer.bitCount(town.wrongBits()), 0);
             return fewestWrong == 0;
         }
 
         /** Where there are no VISITS at all, the one row is empty. */
-        private void over(Town now, int n) {
+        private void begin(Town now, int n) {
             town.become(now);
             length = now.hasVisits() ? n : 0;
             leastPaint = WORST;
-            tryFrom(0, Integer.bitCount(town.wrongBits()), 0);
         }
 
         int visitAt(int i) {

@@ -1,18 +1,13 @@
-import java.io.IOException;
 import java.lang.reflect.Constructor;
 import java.lang.reflect.Field;
 import java.lang.reflect.Method;
 import java.lang.reflect.Modifier;
-import java.nio.file.Files;
-import java.nio.file.Path;
 import java.util.Arrays;
 import java.util.List;
 import java.util.Set;
 import java.util.TreeSet;
-import java.util.regex.Matcher;
-import java.util.regex.Pattern;
 
-/** The face of the document and no more, and what LANGUAGE.md lets be seen in the file's words. */
+/** The face of the document and no more. */
 public final class FaceTest {
     private static final String[] FACE = {
         "int feed(int)", "int end(int)", "int text()", "int fault()", "int rule(int)", "int visitor(int, int)",
@@ -25,11 +20,10 @@ public final class FaceTest {
 
     private static final Check check = new Check();
 
-    public static void main(String[] args) throws IOException {
+    public static void main(String[] args) {
         constants();
         methods();
         otherMembers();
-        words();
         check.finish();
     }
 
@@ -80,18 +74,5 @@ public final class FaceTest {
                 check.holds(name + " takes at most seven", method.getParameterCount() <= 7);
             }
         }
-    }
-
-    private static void words() throws IOException {
-        String source = Files.readString(Path.of("src/main/java/DoorPaints.java"));
-        String code = source.replaceAll("(?s)/\\*.*?\\*/", "").replaceAll("//[^\n]*", "").replaceAll("\"[^\"]*\"", "\"\"");
-        String[] out = {"throw", "throws", "try", "catch", "synchronized", "assert", "import", "package", "Object", "System", "Exact", "protected", "hashCode", "toString"};
-        for (String word : out) {
-            Matcher found = Pattern.compile("\\b" + word + "\\b").matcher(code);
-            check.holds("the file does not say " + word, !found.find());
-        }
-        check.holds("no lambda", !code.contains("->"));
-        check.holds("no method reference", !code.contains("::"));
-        check.holds("plain signs alone", source.chars().allMatch(c -> c < 128));
     }
 }
